@@ -1008,9 +1008,6 @@ public final class FigureHouse {
 
         int faultIn(Text asked) {
             open(asked);
-            n = 0;
-            b = 0;
-            x = 0;
             boolean goesOn = true;
             for (int i = 0; goesOn && i <= text.length; i++) {
                 if (!isLabel(nextSign())) {

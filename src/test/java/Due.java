@@ -78,4 +78,16 @@ final class Due {
         int plan = plan(house, text);
         return answerOf(() -> house.worth(plan, label, n, b, x));
     }
+
+    /**
+     * A house with page 0 of eight lines and one block, whose numbers are whole and all true:
+     * 14, 42, 84, 140, 210, 294, 392, 504 (lines 3 to 7 are made, of order 2).
+     */
+    static FigureHouse housed(String moreOfPlan) {
+        FigureHouse house = new FigureHouse();
+        house.function(2, 7, 0);
+        plan(house, "a:7;o:2;m:8" + moreOfPlan);
+        house.page(0, 7, 8, 0);
+        return house;
+    }
 }

@@ -1,0 +1,118 @@
+import java.io.IOException;
+import java.lang.reflect.Constructor;
+import java.lang.reflect.Field;
+import java.lang.reflect.Method;
+import java.lang.reflect.Modifier;
+import java.nio.file.Files;
+import java.nio.file.Path;
+import java.util.ArrayList;
+import java.util.HashSet;
+import java.util.List;
+import java.util.Set;
+
+/** The rules of LANGUAGE.md that can be seen from outside, and the face of the document. */
+final class LanguageTest {
+    private static final int FACE = 59;
+
+    public static void main(String[] args) throws IOException {
+        face();
+        classes();
+        source(Files.readAllLines(Path.of("src/main/java/FigureHouse.java")));
+        Due.end("LanguageTest");
+    }
+
+    private static void none(String what) {
+        Due.is(what, 1, 0);
+    }
+
+    private static void face() {
+        Class<?> house = FigureHouse.class;
+        Due.is("public and final", Modifier.isPublic(house.getModifiers()) && Modifier.isFinal(house.getModifiers()), true);
+        int methods = 0;
+        for (Method m : house.getDeclaredMethods()) {
+            if (Modifier.isPublic(m.getModifiers())) {
+                methods++;
+                boolean throwsOne = m.getExceptionTypes().length > 0;
+                boolean isLooked = List.of("worth", "trueOf", "figure", "kept", "right", "stray", "printed", "copied").contains(m.getName());
+                Due.is(m.getName() + " throws", throwsOne, isLooked);
+            } else if (!Modifier.isPrivate(m.getModifiers())) {
+                none("neither public nor private: " + m);
+            }
+        }
+        Due.is("methods of the face", methods, FACE - 1);
+        Due.is("one constructor", house.getDeclaredConstructors().length, 1);
+        for (Field f : house.getDeclaredFields()) {
+            if (!Modifier.isPrivate(f.getModifiers()) && !f.getName().equals("NONE")) {
+                none("a field that is not private: " + f);
+            }
+        }
+    }
+
+    private static void classes() {
+        Set<String> names = new HashSet<>();
+        for (Method m : FigureHouse.class.getDeclaredMethods()) {
+            if (Modifier.isPublic(m.getModifiers())) {
+                names.add(m.getName());
+            }
+        }
+        List<Class<?>> all = new ArrayList<>(List.of(FigureHouse.class.getDeclaredClasses()));
+        all.add(FigureHouse.class);
+        Due.is("twelve classes at most", all.size() <= 12, true);
+        for (Class<?> one : all) {
+            members(one, names);
+        }
+    }
+
+    private static void members(Class<?> one, Set<String> names) {
+        int fields = 0;
+        for (Field f : one.getDeclaredFields()) {
+            boolean isStatic = Modifier.isStatic(f.getModifiers());
+            if (!isStatic) {
+                fields++;
+            } else if (!Modifier.isFinal(f.getModifiers())) {
+                none("static and not final: " + f);
+            }
+        }
+        Due.is("twenty fields at most: " + one, fields <= 20, true);
+        for (Method m : one.getDeclaredMethods()) {
+            Due.is("seven parameters at most: " + m, m.getParameterCount() <= 7, true);
+            if (!Modifier.isPublic(m.getModifiers())) {
+                Due.is("a name of the face: " + m, names.contains(m.getName()), false);
+            }
+        }
+        for (Constructor<?> c : one.getDeclaredConstructors()) {
+            Due.is("seven parameters at most: " + c, c.getParameterCount() <= 7, true);
+        }
+    }
+
+    private static void source(List<String> lines) {
+        String[] forbidden = {"->", "::", "finally", "synchronized", "assert ", "Exact(", "catch", "instanceof", "System.out",
+            "Integer.M", "Long.M", "toString", "hashCode", "equals(", "interface ", " var ", "float", "double "};
+        int start = -1;
+        for (int i = 0; i < lines.size(); i++) {
+            String line = lines.get(i);
+            String code = line.replaceAll("//.*", "").replaceAll("^\\s*/?\\*.*", "");
+            for (String one : forbidden) {
+                if (code.contains(one)) {
+                    none("line " + (i + 1) + " has " + one);
+                }
+            }
+            if (code.startsWith("import ") && !code.matches("import java\\.util\\.(ArrayList|Arrays|NoSuchElementException);")) {
+                none("an import: " + line);
+            }
+            if (code.startsWith("package")) {
+                none("a package");
+            }
+            if (line.chars().anyMatch(c -> c > 126)) {
+                none("a sign above 126 in line " + (i + 1));
+            }
+            if (line.matches("( {4}| {8})[\\w<>\\[\\] ]+\\(.*\\{") || line.matches("( {4}| {8})(private |public )?.*\\($")) {
+                start = i;
+            }
+            if (start >= 0 && line.matches("( {4}| {8})}") && lines.get(start).indexOf(lines.get(start).trim()) == line.indexOf('}')) {
+                Due.is("a method of sixty lines at most, line " + (start + 1), i - start < 60, true);
+                start = -1;
+            }
+        }
+    }
+}
