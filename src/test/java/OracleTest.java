@@ -1,8 +1,11 @@
 import java.lang.reflect.InvocationTargetException;
 import java.lang.reflect.Method;
+import java.util.ArrayList;
 import java.util.HashMap;
+import java.util.List;
 import java.util.Map;
 import java.util.Random;
+import java.util.TreeSet;
 
 /** Long runs of calls, made by a seeded dice, asked of the class and of the Oracle alike. */
 final class OracleTest {
@@ -254,6 +257,29 @@ final class OracleTest {
         }
     }
 
+    private static final int[] EDGES = {
+        Integer.MIN_VALUE, Integer.MIN_VALUE + 1, -1000000001, -1000001, -1000000, -1001, -3, -2, -1, 0, 1, 2, 3, 4, 7, 8, 9, 10, 12,
+        13, 32, 39, 40, 41, 50, 51, 60, 80, 99, 100, 101, 160, 255, 256, 1000, 1001, 9999, 10000, 65536, 1000000, 1000001, 1000000000,
+        1000000001, Integer.MAX_VALUE - 1, Integer.MAX_VALUE
+    };
+
+    /** Any call with numbers at the edges of what is asked, or far beyond. */
+    private void askAtEdges() {
+        List<String> names = new ArrayList<>(new TreeSet<>(mine.keySet()));
+        String name = names.get(dice.nextInt(names.size()));
+        long[] args = new long[mine.get(name).getParameterCount()];
+        for (int i = 0; i < args.length; i++) {
+            args[i] = dice.nextBoolean() ? dice.nextInt(3) : EDGES[dice.nextInt(EDGES.length)];
+            // letters beyond a million are cut behind the next sign, if at all: not asked
+            if (name.equals("worth") && i > 1) args[i] = Math.max(-1000000, Math.min(1000000, args[i]));
+        }
+        // days would run out soon, and Oracle tries all sets of slips
+        if (name.equals("days") && args[0] > 0 && args[0] <= 1000) return;
+        if (List.of("least", "ways", "first").contains(name) && !small((int) args[0], (int) args[1])) return;
+        if (name.equals("worth") && dice.nextBoolean()) args[1] = "aopcmfhskt".charAt(dice.nextInt(10));
+        ask(name, args);
+    }
+
     private void run() {
         int functions = roll(1, 4);
         for (int i = 0; i < functions; i++) ask("function", roll(0, 2), roll(1, 99), roll(0, 99));
@@ -265,6 +291,7 @@ final class OracleTest {
             String name = names[dice.nextInt(names.length)];
             if (names == DONE) tellOne(name);
             else askOne(name);
+            if (dice.nextInt(12) == 0) askAtEdges();
             if (dice.nextInt(80) == 0 && calls < 400) tellPlan();
         }
     }

@@ -46,14 +46,14 @@ final class RoomTest {
     private static void asking(FigureHouse house) {
         long sum = 0;
         long before = made();
-        for (int i = 0; i < 50; i++) {
+        for (int i = 0; i < 20; i++) {
             sum += house.unseen(0, 0) + house.healed(0, 0) + house.wrong(0, 0) + house.fails(0, 0) + house.least(0, 0, 0);
             sum += house.best(0, 100, 40, 2, 2, 0, 0) + house.proof(0, 0) + house.rate(1) + house.kept(0, 9, 0);
             sum += house.fault() + house.worth(0, 'h', 1, 2, 3) + house.figure(0, 9, 2, 0) + house.compare(0, 1);
             house.set(0);
         }
         long bytes = made() - before;
-        Due.is("asking makes nothing: " + bytes + " bytes (" + sum + ")", bytes < 15000, true);
+        Due.is("asking makes nothing: " + bytes + " bytes (" + sum + ")", bytes < 6000, true);
     }
 
     private static void refusedPages(FigureHouse house) {
