@@ -99,6 +99,14 @@ final class BestEdges {
         new Asked(0, 1, 0, 1, 20, 1, 3, 1, 1).isAsTried();
         new Asked(0, 99, 99, 8049, 40, 50, 0, 0, 20).isAsTried();
         new Asked(0, 7, 7, 5000, 40, 1, 5, 0, 20).isAsTried();
+        // 62.5 and 187.5: without places carried the pivot is 63, or 188, which is not right for each f
+        long[][] carried = {{0, 1, 1}, {0, 0, 1}};
+        for (int f = 0; f <= 2; f++) {
+            Edge.is("62.5, f " + f, new Asked(1, 1, 0, 16, 2, 1, 0, f, 10).best(2), carried[0][f]);
+            Edge.is("187.5, f " + f, new Asked(1, 3, 0, 16, 2, 1, 0, f, 10).best(2), carried[1][f]);
+            new Asked(1, 1, 0, 16, 2, 1, 0, f, 10).isAsTried();
+            new Asked(1, 3, 0, 16, 2, 1, 0, f, 10).isAsTried();
+        }
         // slips told do not count
         FigureHouse house = Due.housed("");
         house.slip(0, 4, 0, 1000);

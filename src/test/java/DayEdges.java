@@ -14,6 +14,7 @@ final class DayEdges {
         known();
         knownInDays();
         toldUpToADay();
+        askingChangesNothing();
     }
 
     private static void aNewObject() {
@@ -139,5 +140,22 @@ final class DayEdges {
         for (int q = 0; q < want.length; q++) {
             Edge.is(house.figure(0, 5, 9, q), want[q]);
         }
+    }
+
+    private static void askingChangesNothing() {
+        Edge.of("Not promised", "Nothing is promised beyond the answers and state changes described above,");
+        Edge.refuses(2, FigureHouse::known, h -> h.wrong(0, 1), h -> h.fails(0, 2), h -> h.unseen(0, 3), h -> h.least(0, 0, 3));
+        Edge.refuses(9, h -> h.ways(0, 0, 3), h -> h.left(0, 1), h -> h.lined(1, 0, 0));
+        Edge.refuses(6, h -> h.first(0, 0, 3, 0, 0));
+        Edge.refuses(2105, h -> h.figure(0, 4, 9, 2), h -> h.figure(0, 4, 0, 1));
+        Edge.refuses(210, h -> h.kept(0, 4, 2), h -> h.right(0, 4), h -> h.printed(0, 4), h -> h.copied(0, 4));
+        Edge.refuses(0, h -> h.healed(0, 2), h -> h.stray(0, 4), h -> h.safe(0, 4), h -> h.check(0, 5, 2), h -> h.shut(1, 0, 4));
+        Edge.refuses(3, h -> h.errors(0), h -> h.proof(0, 1), h -> h.kind(0, 5, 2), h -> h.spread(0, 5, 0), h -> h.count(4));
+        Edge.refuses(1000, h -> h.rate(1));
+        Edge.refuses(31, h -> h.best(0, 7, 8, 7, 0, 0, 0));
+        Edge.refuses(1, h -> h.compare(0, 2), h -> h.paged(0, 5), h -> h.bound(0, 0), h -> h.worth(0, 'c', 0, 0, 0), h -> h.whole(0, 7, 0));
+        Edge.refuses(-1, FigureHouse::fault);
+        Edge.refuses(14, h -> h.exact(0, 7, 0), h -> h.nearest(0, 7, 0));
+        Edge.refuses(140, h -> h.trueOf(0, 0));
     }
 }

@@ -67,6 +67,8 @@ final class FunctionEdges {
         Edge.refuses(-1, h -> h.function(MIN, 1, 0), h -> h.function(MAX, 1, 0), h -> h.function(0, MIN, 0));
         Edge.refuses(-1, h -> h.function(0, MAX, 0), h -> h.function(0, 1, MIN), h -> h.function(0, 1, MAX));
         Edge.is(of(0, 99, 99).exact(0, 9999, 6), 994987437);
+        Edge.is(of(0, 99, 0).exact(0, 9900, 6), 990000000);
+        Edge.is(of(0, 99, 0).whole(0, 9900, 6), 1);
         Edge.is(of(0, 1, 0).exact(0, 1, 6), 1000000);
         Edge.is(of(1, 99, 0).exact(0, 1, 6), 99000000000L);
         Edge.is(of(1, 1, 99).exact(0, 9999, 6), 99029);

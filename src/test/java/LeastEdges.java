@@ -9,6 +9,7 @@ final class LeastEdges {
 
     static void run() {
         oneSlip();
+        oneBehindAnother();
         fourAtMost();
         noTwoOfOneLine();
         amountsOfAnySize();
@@ -61,6 +62,29 @@ final class LeastEdges {
         Edge.is(house.first(0, 0, 1, 0, 0), 9);
         Edge.is(house.least(0, 0, 2), 2);
         Edge.is(house.first(0, 0, 2, 1, 0), 12);
+    }
+
+    /** What one block is found to have leaves nothing for the next one, of whatever order, that is asked. */
+    private static void oneBehindAnother() {
+        Edge.of("of a MADE line of it");
+        FigureHouse house = new FigureHouse();
+        house.function(0, 1, 0);
+        for (int o = 1; o <= 4; o++) {
+            Due.plan(house, "a:1;m:" + (o + 4) + ";o:" + o);
+            house.page(0, 1, 2 * o + 8, o - 1);
+            house.slip(o - 1, o + 1, 9, 7);
+            house.slip(o - 1, 2 * o + 5, 0, -5);
+        }
+        int[] orders = {1, 2, 3, 4, 4, 3, 2, 1, 3, 1, 4, 2};
+        for (int o : orders) {
+            for (int block = 1; block >= 0; block--) {
+                Edge.is(house.least(o - 1, block, 0), 1);
+                Edge.is(house.ways(o - 1, block, 0), 1);
+                Edge.is(house.first(o - 1, block, 0, 0, 0), block * (o + 4) + o + 1);
+                Edge.is(house.first(o - 1, block, 0, 0, 1), block == 0 ? 9 : 0);
+                Edge.is(house.first(o - 1, block, 0, 0, 2), block == 0 ? 7 : -5);
+            }
+        }
     }
 
     private static void fourAtMost() {

@@ -62,6 +62,10 @@ final class PlanEdges {
         Edge.is(tapeOf(159).feed(0, 0, 0, 0, '1'), 160);
         Edge.is(tapeOf(140).feed(0x2B313131, 0x2B313131, 0x2B313131, 0x2B313131, 0x2B313131), 160);
         Edge.refuses(() -> tapeOf(160), -1, h -> h.feed(0, 0, 0, 0, '1'), h -> h.feed('1' << 24, 0, 0, 0, 0));
+        for (int bit = 0; bit < 32; bit++) {
+            int one = 1 << bit;
+            Edge.is(tapeOf(160).feed(0, 0, one, 0, 0), -1);
+        }
         Edge.refuses(() -> tapeOf(159), -1, h -> h.feed(0, 0, 0, '1', '1'), h -> h.feed(-1, -1, -1, -1, -1));
         Edge.refuses(() -> tapeOf(141), -1, h -> h.feed(0x2B313131, 0x2B313131, 0x2B313131, 0x2B313131, 0x2B313131));
     }
@@ -419,6 +423,17 @@ final class PlanEdges {
         int[] want = {4, 2, 3, 1, 6, 2};
         for (int i = 0; i < want.length; i++) {
             Edge.is(house.paged(1, i + 2), want[i]);
+        }
+        String[] head = {"a:4", "o:2", "p:3", "c:1", "m:6", "f:2"};
+        for (int i = 0; i < head.length; i++) {
+            for (char letter : "nbx".toCharArray()) {
+                String plan = "";
+                for (int j = 0; j < head.length; j++) {
+                    plan += (j == 0 ? "" : ";") + head[j] + (j == i ? "+" + letter : "");
+                }
+                FigureHouse other = PageEdges.paged(plan, 50, 14);
+                Edge.is(plan, other.paged(0, i + 2), want[i]);
+            }
         }
         Edge.of("of each line: h who makes it, s who may see it (bits of HANDS), k what is checked there, t how far off it may be there.");
         Due.plan(house, "a:1;o:1;m:3;h:n;s:n*n;k:n%4;t:n*9");
