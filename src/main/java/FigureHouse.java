@@ -139,7 +139,7 @@ public final class FigureHouse {
 
     public long exact(int function, int x, int places) {
         Curve curve = curveAt(function, x, places);
-        return curve == null ? NONE : Math.floorDiv(curve.quartersAt(x), unitOf(places));
+        return curve == null ? NONE : wholeBy(curve.quartersAt(x), unitOf(places));
     }
 
     public int whole(int function, int x, int places) {
@@ -147,7 +147,7 @@ public final class FigureHouse {
         if (curve == null) {
             return NONE;
         }
-        return Math.floorMod(curve.quartersAt(x), unitOf(places)) == 0 ? 1 : 0;
+        return restBy(curve.quartersAt(x), unitOf(places)) == 0 ? 1 : 0;
     }
 
     public long nearest(int function, int x, int places) {
@@ -343,7 +343,7 @@ public final class FigureHouse {
             return p.isMade(line) ? 0 : 1;
         }
         long unit = ten(p.carried);
-        long fromHalf = Math.abs(Math.floorMod(p.truth[line], unit) - unit / 2);
+        long fromHalf = Math.abs(restBy(p.truth[line], unit) - unit / 2);
         return fromHalf >= p.boundOf(line) + driftUnits ? 1 : 0;
     }
 
@@ -882,13 +882,19 @@ public final class FigureHouse {
         return 4 * ten(MOST_FIGURES - places);
     }
 
+    /** The greatest whole number not above value by unit. */
+    private static long wholeBy(long value, long unit) {
+        return unit > 0 ? Math.floorDiv(value, unit) : 0;
+    }
+
+    private static long restBy(long value, long unit) {
+        return unit > 0 ? Math.floorMod(value, unit) : 0;
+    }
+
     /** The whole number nearest to value by unit; at a half the greater, the even or the lesser one. */
     private static long rounded(long value, long unit, int halves) {
-        if (unit <= 0) {
-            return 0;
-        }
-        long low = Math.floorDiv(value, unit);
-        long twice = 2 * Math.floorMod(value, unit);
+        long low = wholeBy(value, unit);
+        long twice = 2 * restBy(value, unit);
         if (twice < unit) {
             return low;
         }
@@ -1078,9 +1084,10 @@ public final class FigureHouse {
             boolean all = unit(depth);
             for (int i = 0; i <= text.length; i++) {
                 if (accepts('&')) {
-                    all &= unit(depth);
+                    boolean next = unit(depth);
+                    all = all && next;
                 } else if (accepts('|')) {
-                    some |= all;
+                    some = some || all;
                     all = unit(depth);
                 } else {
                     break;
@@ -1100,11 +1107,16 @@ public final class FigureHouse {
                 refuse();
                 return false;
             }
-            if (accepts('!')) {
-                return !unit(depth + 1);
-            }
+            return accepts('!') ? negated(depth + 1) : parenthesised(depth + 1);
+        }
+
+        private boolean negated(int depth) {
+            return !unit(depth);
+        }
+
+        private boolean parenthesised(int depth) {
             demand('(');
-            boolean holds = condition(depth + 1);
+            boolean holds = condition(depth);
             demand(')');
             return holds;
         }
@@ -1129,9 +1141,9 @@ public final class FigureHouse {
                 if (accepts('*')) {
                     product = cut(product * atom(depth));
                 } else if (accepts('/')) {
-                    product = quotient(product, atom(depth));
+                    product = cut(quotient(product, atom(depth)));
                 } else if (accepts('%')) {
-                    product = remainder(product, atom(depth));
+                    product = cut(remainder(product, atom(depth)));
                 } else {
                     break;
                 }
@@ -1212,7 +1224,7 @@ public final class FigureHouse {
 
         private void refuse() {
             if (refusedAt == NONE) {
-                refusedAt = Math.min(at, text.length);
+                refusedAt = at < text.length ? at : text.length;
             }
         }
 
@@ -1236,11 +1248,11 @@ public final class FigureHouse {
         }
 
         private static long quotient(long one, long other) {
-            return other == 0 ? 0 : cut(one / other);
+            return other == 0 ? 0 : one / other;
         }
 
         private static long remainder(long one, long other) {
-            return other == 0 ? 0 : cut(one % other);
+            return other == 0 ? 0 : one % other;
         }
 
         private static long cut(long value) {
@@ -1373,7 +1385,8 @@ public final class FigureHouse {
         }
 
         int endOf(int block) {
-            return Math.min(lines, (block + 1) * span);
+            int full = (block + 1) * span;
+            return full < lines ? full : lines;
         }
 
         /** The line behind the pivots of a block. */
@@ -1672,6 +1685,11 @@ public final class FigureHouse {
             if (depth >= MOST_BLAMED || depth >= fewest) {
                 return;
             }
+            blame(depth, line);
+        }
+
+        /** Takes each column in turn for a slip that gives what is left over at this line. */
+        private void blame(int depth, int line) {
             long amount = rest[line];
             lines[depth] = line;
             amounts[depth] = amount;

