@@ -1453,11 +1453,14 @@ public final class FigureHouse {
         }
 
         private long pressedAt(int line, int place) {
-            return pressed[line] >>> 4 * place & 15;
+            return hasLine(line) ? pressed[line] >>> 4 * place & 15 : 0;
         }
 
         /** Keeps the figure and one in the four bits of its place, so that 0 says that none was told. */
         void pressFigure(int line, int place, int figure) {
+            if (!hasLine(line)) {
+                return;
+            }
             long others = pressed[line] & ~(15L << 4 * place);
             pressed[line] = others | (long) (figure + 1) << 4 * place;
         }
@@ -1531,7 +1534,10 @@ public final class FigureHouse {
         }
 
         void add(int line, int column, long amount) {
-            off[line * WIDE + (column == COPIED ? COPIED_SLOT : column)] += amount;
+            int slot = column == COPIED ? COPIED_SLOT : column;
+            if (within(line, 0, LINES - 1) && within(slot, 0, WIDE - 1)) {
+                off[line * WIDE + slot] += amount;
+            }
         }
 
         void make(Page p) {
@@ -1560,6 +1566,9 @@ public final class FigureHouse {
         private void makeLine(int line, int order) {
             int here = line * WIDE;
             int ahead = here - WIDE;
+            if (ahead < 0 || here + WIDE > columns.length || line >= numbers.length || !within(order, 1, MOST_ORDER)) {
+                return;
+            }
             columns[here + order] = columns[ahead + order];
             for (int column = order - 1; column >= 0; column--) {
                 columns[here + column] = columns[ahead + column] + columns[here + column + 1] + off[here + column];

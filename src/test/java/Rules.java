@@ -10,6 +10,7 @@ import java.util.ArrayList;
 import java.util.HashMap;
 import java.util.HashSet;
 import java.util.List;
+import java.util.Locale;
 import java.util.Map;
 import java.util.Set;
 import java.util.TreeMap;
@@ -47,14 +48,15 @@ final class Rules extends TreePathScanner<Void, Void> {
             Map.entry("java.util.Arrays", Set.of("copyOf", "copyOfRange", "fill")),
             Map.entry("java.lang.Object", Set.of("clone")));
 
-    private static final Set<String> MADE = Set.of("java.util.ArrayList", "java.lang.StringBuilder", "java.lang.String");
+    private static final Set<String> MADE =
+            Set.of("java.util.ArrayList", "java.lang.StringBuilder", "java.lang.String");
 
     private static final Set<String> THROWN = Set.of("IllegalStateException", "IllegalArgumentException",
             "IndexOutOfBoundsException", "ArithmeticException", "UnsupportedOperationException",
             "NoSuchElementException", "RuntimeException");
 
-    private static final Set<String> TYPES = Set.of("int", "long", "short", "byte", "char", "boolean", "double", "float",
-            "java.lang.String", "java.lang.StringBuilder", "java.lang.Integer");
+    private static final Set<String> TYPES = Set.of("int", "long", "short", "byte", "char", "boolean", "double",
+            "float", "java.lang.String", "java.lang.StringBuilder", "java.lang.Integer");
 
     private static final Set<Tree.Kind> COMPARING = Set.of(Tree.Kind.LESS_THAN, Tree.Kind.LESS_THAN_EQUAL,
             Tree.Kind.GREATER_THAN, Tree.Kind.GREATER_THAN_EQUAL, Tree.Kind.EQUAL_TO, Tree.Kind.NOT_EQUAL_TO);
@@ -65,7 +67,9 @@ final class Rules extends TreePathScanner<Void, Void> {
     private final Map<ExecutableElement, Set<ExecutableElement>> calls = new HashMap<>();
     private final Set<ExecutableElement> callLibrary = new HashSet<>();
     private int classes = 0;
-    /** Names that the method in hand compares with something. */
+    /** What the method in hand compares with something, as it is written. */
+    private Set<String> compared = new HashSet<>();
+    /** Names in what the method in hand compares, or hands to a method that may look at them. */
     private Set<String> looked = new HashSet<>();
 
     private Rules(CompilationUnitTree unit, Trees trees) {
@@ -207,7 +211,9 @@ final class Rules extends TreePathScanner<Void, Void> {
             breaks(6, "a method of one's own: " + tree.getName(), tree);
         }
         calls.put(method, new HashSet<>());
-        looked = comparedIn(tree);
+        compared = new HashSet<>();
+        looked = new HashSet<>();
+        seeLooked(tree);
         return super.visitMethod(tree, unused);
     }
 
@@ -228,6 +234,9 @@ final class Rules extends TreePathScanner<Void, Void> {
             see(called, tree);
         } else {
             breaks(4, "a call that nobody knows: " + tree, tree);
+        }
+        if (isPlaceInList(tree)) {
+            seeIndex(tree.getArguments().get(0));
         }
         return super.visitMethodInvocation(tree, unused);
     }
@@ -309,6 +318,9 @@ final class Rules extends TreePathScanner<Void, Void> {
         if (tree.getFinallyBlock() != null || !tree.getResources().isEmpty()) {
             breaks(6, "finally, or resources", tree);
         }
+        if (methodInHand() != null && holdsThrow(methodInHand())) {
+            breaks(6, "a try in the method that holds the throw", tree);
+        }
         for (CatchTree one : tree.getCatches()) {
             String caught = one.getParameter().getType().toString();
             // What the machine throws of itself is not to be caught, by its own name or by a class above it.
@@ -320,7 +332,21 @@ final class Rules extends TreePathScanner<Void, Void> {
         return super.visitTry(tree, unused);
     }
 
-    // ---- loops, signs and divisors
+    private static boolean holdsThrow(MethodTree method) {
+        return new TreeScanner<Boolean, Void>() {
+            @Override
+            public Boolean visitThrow(ThrowTree tree, Void unused) {
+                return true;
+            }
+
+            @Override
+            public Boolean reduce(Boolean one, Boolean other) {
+                return one == Boolean.TRUE || other == Boolean.TRUE;
+            }
+        }.scan(method, null) == Boolean.TRUE;
+    }
+
+    // ---- loops, signs, divisors and indices
 
     @Override
     public Void visitForLoop(ForLoopTree tree, Void unused) {
@@ -409,25 +435,67 @@ final class Rules extends TreePathScanner<Void, Void> {
     /** A divisor is a number, or is compared with something in the same method. */
     private void seeDivisor(ExpressionTree divisor) {
         String name = divisor.toString().replaceAll("[()]", "").replaceAll(" \\+ [1-9]\\d*$", "");
-        if (!name.matches("[1-9]\\d*") && !looked.contains(name)) {
+        if (!name.matches("[1-9]\\d*") && !compared.contains(name)) {
             breaks(7, "a divisor that is not looked at: " + divisor, divisor);
         }
     }
 
-    /** What stands beside a sign of comparing. */
-    private static Set<String> comparedIn(MethodTree method) {
-        Set<String> names = new HashSet<>();
+    private void seeLooked(MethodTree method) {
         new TreeScanner<Void, Void>() {
             @Override
             public Void visitBinary(BinaryTree tree, Void unused) {
                 if (COMPARING.contains(tree.getKind())) {
-                    names.add(tree.getLeftOperand().toString());
-                    names.add(tree.getRightOperand().toString());
+                    compared.add(tree.getLeftOperand().toString());
+                    compared.add(tree.getRightOperand().toString());
+                    looked.addAll(namesIn(tree));
                 }
                 return super.visitBinary(tree, unused);
             }
+
+            @Override
+            public Void visitMethodInvocation(MethodInvocationTree tree, Void unused) {
+                if (!isPlaceInList(tree)) {
+                    tree.getArguments().forEach(argument -> looked.addAll(namesIn(argument)));
+                }
+                return super.visitMethodInvocation(tree, unused);
+            }
         }.scan(method, null);
+    }
+
+    /** The names in it that do not stand for constants. */
+    private static Set<String> namesIn(Tree tree) {
+        Set<String> names = new HashSet<>();
+        new TreeScanner<Void, Void>() {
+            @Override
+            public Void visitIdentifier(IdentifierTree tree, Void unused) {
+                String name = tree.getName().toString();
+                if (!name.equals(name.toUpperCase(Locale.ROOT))) {
+                    names.add(name);
+                }
+                return null;
+            }
+        }.scan(tree, null);
         return names;
+    }
+
+    private static boolean isPlaceInList(MethodInvocationTree tree) {
+        return tree.getMethodSelect() instanceof MemberSelectTree select && !tree.getArguments().isEmpty()
+                && Set.of("get", "set", "remove").contains(select.getIdentifier().toString());
+    }
+
+    @Override
+    public Void visitArrayAccess(ArrayAccessTree tree, Void unused) {
+        seeIndex(tree.getIndex());
+        return super.visitArrayAccess(tree, unused);
+    }
+
+    /** Each name in an index is compared in the same method, or handed to one that may look at it. */
+    private void seeIndex(ExpressionTree index) {
+        Set<String> names = namesIn(index);
+        names.removeAll(looked);
+        if (!names.isEmpty()) {
+            breaks(7, "an index that is not looked at: " + index, index);
+        }
     }
 
     // ---- what is not to be there at all

@@ -102,8 +102,13 @@ final class RulesTest {
         breaks(6, "int one(String text) { throw new IllegalStateException(text); }");
         breaks(6, "public FigureHouse() { throw new IllegalStateException(); }");
         breaks(6, "int one() { try { return 1; } finally { count(); } } void count() { }");
-        breaks(6, "int one() { try { return two(); } catch (ArithmeticException e) { return 0; } } int two() { return 2; }");
-        breaks(6, "int one() { try { return two(); } catch (RuntimeException e) { return 0; } } int two() { return 2; }");
+        for (String caught : new String[] {"ArithmeticException", "IndexOutOfBoundsException", "RuntimeException"}) {
+            breaks(6, "int one() { try { return two(); } catch (" + caught + " e) { return 0; } } int two() { return 2; }");
+        }
+        breaks(6, "int one(int a) { try { if (a < 0) { throw new IllegalStateException(); } return two(); } "
+                + "catch (IllegalStateException e) { return 0; } } int two() { return 2; }");
+        keeps("int one() { try { return two(); } catch (IllegalStateException e) { return 0; } } "
+                + "int two() { throw new IllegalStateException(); }");
         breaks(6, "public int hashCode() { return 1; }");
         breaks(6, "boolean same(String a, String b) { return a == b; }");
         breaks(6, "void one(int a) { assert a > 0; }");
@@ -124,6 +129,12 @@ final class RulesTest {
         breaks(7, "int by(int a, int b) { return Math.floorMod(a, b); }");
         breaks(7, "int by(int a, int b) { a /= b; return a; }");
         breaks(7, "int by(int a) { return a / 0; }");
+        breaks(7, "int[] row; int at(int i) { return row[i]; }");
+        breaks(7, "int[] row; int at(int i) { int j = 2 * i; return i < 0 ? 0 : row[j]; }");
+        breaks(7, "ArrayList<Integer> list; Integer at(int i) { return list.get(i); }");
+        keeps("int[] row; boolean has(int i) { return i >= 0 && i < row.length; } "
+                + "int at(int i) { return has(i) ? row[i] : 0; }");
+        keeps("ArrayList<Integer> list; Integer at(int i) { return i < 0 || i >= list.size() ? null : list.get(i); }");
         breaks(9, "int one() { for (;;) { } }");
         breaks(9, "int one() { while (true) { } }");
         breaks(9, "int one() { do { } while ((true)); }");
